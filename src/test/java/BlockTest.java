@@ -44,59 +44,34 @@ public final class BlockTest {
     }
 
     private static void both(int i, boolean deciphers, boolean second) {
-        Numbers numbers = new Numbers(i);
-        SectorSeal seal = new SectorSeal();
-        Reference reference = new Reference();
-        fill(seal, reference, numbers);
-        String call = "block(" + i + ", " + deciphers + ", " + second + ")";
-        CHECKS.dueLong(call, seal.block(i, deciphers, second), reference.block(i, deciphers, second));
-        CHECKS.dueSector(call, seal, reference.longs);
+        Pair pair = Pair.filled(CHECKS, i);
+        pair.block("", i, deciphers, second);
+        pair.sameSector("block(" + i + ", " + deciphers + ", " + second + ")");
     }
 
     // 256 blocks of one byte each reach every entry of both tables in the first round.
     private static void passesEveryByteThroughBothTables() {
         for (int value = 0; value < 256; value++) {
-            SectorSeal seal = new SectorSeal();
-            Reference reference = new Reference();
-            long w = value * 0x0101010101010101L;
+            Pair pair = new Pair(CHECKS);
             for (int i = 0; i < 4; i++) {
-                seal.put(i, w);
-                reference.put(i, w);
+                pair.put("", i, value * 0x0101010101010101L);
             }
-            seal.block(0, false, false);
-            reference.block(0, false, false);
-            seal.block(1, true, false);
-            reference.block(1, true, false);
-            CHECKS.dueSector("the blocks of byte " + value, seal, reference.longs);
+            pair.block("of byte " + value + ": ", 0, false, false);
+            pair.block("of byte " + value + ": ", 1, true, false);
+            pair.sameSector("the blocks of byte " + value);
         }
     }
 
     private static void throwsOutsideTheSector() {
-        SectorSeal seal = new SectorSeal();
-        Reference reference = new Reference();
-        fill(seal, reference, new Numbers(6L));
+        Pair pair = Pair.filled(CHECKS, 6L);
         for (int i : WRONG) {
             for (boolean deciphers : EITHER) {
                 for (boolean second : EITHER) {
                     CHECKS.dueThrows("block(" + i + ", " + deciphers + ", " + second + ")",
-                        () -> seal.block(i, deciphers, second), IndexOutOfBoundsException.class);
+                        () -> pair.seal.block(i, deciphers, second), IndexOutOfBoundsException.class);
                 }
             }
         }
-        CHECKS.dueSector("the blocks that threw", seal, reference.longs);
-    }
-
-    private static void fill(SectorSeal seal, Reference reference, Numbers numbers) {
-        long a = numbers.next();
-        long b = numbers.next();
-        long c = numbers.next();
-        long d = numbers.next();
-        seal.key(a, b, c, d);
-        reference.key(a, b, c, d);
-        for (int i = 0; i < 16; i++) {
-            long w = numbers.next();
-            seal.put(i, w);
-            reference.put(i, w);
-        }
+        pair.sameSector("the blocks that threw");
     }
 }

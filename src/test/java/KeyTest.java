@@ -49,13 +49,10 @@ public final class KeyTest {
         for (int bit = 0; bit < 256; bit++) {
             long[] key = new long[4];
             key[bit / 64] = 1L << bit % 64;
-            SectorSeal seal = new SectorSeal();
-            Reference reference = new Reference();
-            seal.key(key[0], key[1], key[2], key[3]);
-            reference.key(key[0], key[1], key[2], key[3]);
-            String call = "sector(1, true) under the key of bit " + bit;
-            CHECKS.dueLong(call, seal.sector(1, true), reference.sector(1, true));
-            CHECKS.dueSector(call, seal, reference.longs);
+            Pair pair = new Pair(CHECKS);
+            pair.key(key[0], key[1], key[2], key[3]);
+            pair.sector("bit " + bit + " of the key: ", 1, true);
+            pair.sameSector("sector(1, true) under bit " + bit + " of the key");
         }
     }
 

@@ -13,8 +13,7 @@ public final class LongRunsTest {
 
     private final int run;
     private final Numbers numbers;
-    private final SectorSeal seal = new SectorSeal();
-    private final Reference reference = new Reference();
+    private final Pair pair = new Pair(CHECKS);
 
     private LongRunsTest(int run) {
         this.run = run;
@@ -25,62 +24,52 @@ public final class LongRunsTest {
         for (int call = 0; call < CALLS - 16; call++) {
             oneCall("run " + run + ", call " + call + ": ");
         }
-        CHECKS.dueSector("run " + run, seal, reference.longs);
+        pair.sameSector("run " + run);
     }
 
     private void oneCall(String where) {
         switch (numbers.below(8)) {
-            case 0 -> key();
+            case 0 -> pair.key(numbers);
             case 1, 2 -> put(where, numbers.below(20) - 2, numbers.next());
             case 3 -> get(where, numbers.below(20) - 2);
             case 4, 5 -> sector(where, (int) numbers.next() >> numbers.below(31), numbers.coin());
             case 6 -> block(where, numbers.below(12) - 2, numbers.coin(), numbers.coin());
-            default -> CHECKS.dueLong(where + "sum()", seal.sum(), reference.sum());
+            default -> pair.sum(where);
         }
     }
 
-    private void key() {
-        long a = numbers.next();
-        long b = numbers.next();
-        long c = numbers.next();
-        long d = numbers.next();
-        seal.key(a, b, c, d);
-        reference.key(a, b, c, d);
-    }
-
     private void put(String where, int i, long w) {
-        String call = where + "put(" + i + ", " + w + ")";
         if (i < 0 || i > 15) {
-            CHECKS.dueThrows(call, () -> seal.put(i, w), IndexOutOfBoundsException.class);
+            CHECKS.dueThrows(where + "put(" + i + ")", () -> pair.seal.put(i, w), IndexOutOfBoundsException.class);
         } else {
-            CHECKS.dueLong(call, seal.put(i, w), reference.put(i, w));
+            pair.put(where, i, w);
         }
     }
 
     private void get(String where, int i) {
         String call = where + "get(" + i + ")";
         if (i < 0 || i > 15) {
-            CHECKS.dueThrows(call, () -> seal.get(i), IndexOutOfBoundsException.class);
+            CHECKS.dueThrows(call, () -> pair.seal.get(i), IndexOutOfBoundsException.class);
         } else {
-            CHECKS.dueLong(call, seal.get(i), reference.longs[i]);
+            CHECKS.dueLong(call, pair.seal.get(i), pair.reference.longs[i]);
         }
     }
 
     private void sector(String where, int s, boolean seals) {
-        String call = where + "sector(" + s + ", " + seals + ")";
         if (s < 0) {
-            CHECKS.dueThrows(call, () -> seal.sector(s, seals), IllegalArgumentException.class);
+            CHECKS.dueThrows(where + "sector(" + s + ")", () -> pair.seal.sector(s, seals),
+                IllegalArgumentException.class);
         } else {
-            CHECKS.dueLong(call, seal.sector(s, seals), reference.sector(s, seals));
+            pair.sector(where, s, seals);
         }
     }
 
     private void block(String where, int i, boolean deciphers, boolean second) {
-        String call = where + "block(" + i + ", " + deciphers + ", " + second + ")";
         if (i < 0 || i > 7) {
-            CHECKS.dueThrows(call, () -> seal.block(i, deciphers, second), IndexOutOfBoundsException.class);
+            CHECKS.dueThrows(where + "block(" + i + ")", () -> pair.seal.block(i, deciphers, second),
+                IndexOutOfBoundsException.class);
         } else {
-            CHECKS.dueLong(call, seal.block(i, deciphers, second), reference.block(i, deciphers, second));
+            pair.block(where, i, deciphers, second);
         }
     }
 }

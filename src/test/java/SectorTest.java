@@ -58,9 +58,9 @@ public final class SectorTest {
 
     private static void sealsAndOpensUnderEveryKindOfNumber() {
         for (int s : NUMBERS) {
-            Pair pair = new Pair(s);
+            Pair pair = Pair.filled(CHECKS, s);
             long[] plain = pair.reference.longs.clone();
-            pair.both(s, true);
+            both(pair, s, true);
             pair.seal.sector(s, false);
             CHECKS.dueSector("sealing and opening as " + s, pair.seal, plain);
         }
@@ -68,65 +68,43 @@ public final class SectorTest {
 
     private static void opensWhatWasNeverSealed() {
         for (int s : NUMBERS) {
-            new Pair(s + 1000L).both(s, false);
+            both(Pair.filled(CHECKS, s + 1000L), s, false);
         }
     }
 
     // Some forty keys: the tweak's top bit is set in about half of all doublings.
     private static void reducesTheTweakWhenItOverflows() {
         for (int start = 0; start < 40; start++) {
-            Pair pair = new Pair(5000L + start);
-            pair.both(start, true);
-            pair.both(start + 1, false);
+            Pair pair = Pair.filled(CHECKS, 5000L + start);
+            both(pair, start, true);
+            both(pair, start + 1, false);
         }
     }
 
     private static void sealsTwiceAndOpensTwice() {
-        Pair pair = new Pair(77L);
+        Pair pair = Pair.filled(CHECKS, 77L);
         long[] plain = pair.reference.longs.clone();
-        pair.both(3, true);
-        pair.both(4, true);
-        pair.both(4, false);
-        pair.both(3, false);
+        both(pair, 3, true);
+        both(pair, 4, true);
+        both(pair, 4, false);
+        both(pair, 3, false);
         CHECKS.dueSector("opening in the other order", pair.seal, plain);
     }
 
     private static void throwsBelowZero() {
-        Pair pair = new Pair(99L);
+        Pair pair = Pair.filled(CHECKS, 99L);
         for (int s : new int[] {-1, -2, -0x01020304, Integer.MIN_VALUE, Integer.MIN_VALUE + 1}) {
             for (boolean seals : new boolean[] {true, false}) {
                 CHECKS.dueThrows("sector(" + s + ", " + seals + ")", () -> pair.seal.sector(s, seals),
                     IllegalArgumentException.class);
             }
         }
-        CHECKS.dueSector("the calls that threw", pair.seal, pair.reference.longs);
-        pair.both(0, true);
+        pair.sameSector("the calls that threw");
+        both(pair, 0, true);
     }
 
-    /** An object and the reference, with the same key and sector. */
-    private static final class Pair {
-        final SectorSeal seal = new SectorSeal();
-        final Reference reference = new Reference();
-
-        Pair(long start) {
-            Numbers numbers = new Numbers(start);
-            long a = numbers.next();
-            long b = numbers.next();
-            long c = numbers.next();
-            long d = numbers.next();
-            seal.key(a, b, c, d);
-            reference.key(a, b, c, d);
-            for (int i = 0; i < 16; i++) {
-                long w = numbers.next();
-                seal.put(i, w);
-                reference.put(i, w);
-            }
-        }
-
-        void both(int s, boolean seals) {
-            String call = "sector(" + s + ", " + seals + ")";
-            CHECKS.dueLong(call, seal.sector(s, seals), reference.sector(s, seals));
-            CHECKS.dueSector(call, seal, reference.longs);
-        }
+    private static void both(Pair pair, int s, boolean seals) {
+        pair.sector("", s, seals);
+        pair.sameSector("sector(" + s + ", " + seals + ")");
     }
 }

@@ -30,23 +30,17 @@ public final class SumTest {
     }
 
     private static void followsASealedSector() {
-        SectorSeal seal = new SectorSeal();
-        Reference reference = new Reference();
-        seal.sector(5, true);
-        reference.sector(5, true);
-        CHECKS.dueLong("sum() after sector(5, true)", seal.sum(), reference.sum());
-        seal.block(2, true, true);
-        reference.block(2, true, true);
-        CHECKS.dueLong("sum() after block(2, true, true)", seal.sum(), reference.sum());
+        Pair pair = new Pair(CHECKS);
+        pair.sector("", 5, true);
+        pair.sum("after sector: ");
+        pair.block("", 2, true, true);
+        pair.sum("after block: ");
     }
 
     private static void changesNothing() {
-        SectorSeal seal = new SectorSeal();
-        Reference reference = new Reference();
-        seal.sector(8, true);
-        reference.sector(8, true);
-        seal.sum();
-        CHECKS.dueSector("sum()", seal, reference.longs);
-        CHECKS.dueLong("sum() again", seal.sum(), reference.sum());
+        Pair pair = Pair.filled(CHECKS, 7L);
+        pair.sum("");
+        pair.sameSector("sum()");
+        pair.sum("again: ");
     }
 }
