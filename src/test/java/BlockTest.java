@@ -1,15 +1,15 @@
-/** Promise 6: block is AES on two LONGS under one half of the KEY, and throws if i is not 0 to 7. */
+/** Promise 6: block is AES on two LONGS under one half of the KEY; i is 0 to 7. */
 public final class BlockTest {
     private static final Checks CHECKS = new Checks();
-    private static final int[] WRONG = {-1, 8, 9, 15, 16, -8, 0x40000000, 0x7fffffff, 0x80000000, 0x80000001};
-    private static final boolean[] EITHER = {false, true};
 
     public static void main(String[] args) {
         enciphersFipsAppendixB();
         enciphersAndDeciphersFipsAppendixC();
         changesTheTwoLongsOfItsBlockAlone();
         passesEveryByteThroughBothTables();
-        throwsOutsideTheSector();
+        undoesWhatItDid();
+        takesTheEdgesOfLong();
+        throwsIfTheIndexIsNot0To7();
         CHECKS.end();
     }
 
@@ -35,8 +35,8 @@ public final class BlockTest {
 
     private static void changesTheTwoLongsOfItsBlockAlone() {
         for (int i = 0; i < 8; i++) {
-            for (boolean deciphers : EITHER) {
-                for (boolean second : EITHER) {
+            for (boolean deciphers : Edges.EITHER) {
+                for (boolean second : Edges.EITHER) {
                     both(i, deciphers, second);
                 }
             }
@@ -46,7 +46,7 @@ public final class BlockTest {
     private static void both(int i, boolean deciphers, boolean second) {
         Pair pair = Pair.filled(CHECKS, i);
         pair.block("", i, deciphers, second);
-        pair.sameSector("block(" + i + ", " + deciphers + ", " + second + ")");
+        pair.everyAnswer("block(" + i + ", " + deciphers + ", " + second + "): ");
     }
 
     // 256 blocks of one byte each reach every entry of both tables in the first round.
@@ -62,16 +62,45 @@ public final class BlockTest {
         }
     }
 
-    private static void throwsOutsideTheSector() {
-        Pair pair = Pair.filled(CHECKS, 6L);
-        for (int i : WRONG) {
-            for (boolean deciphers : EITHER) {
-                for (boolean second : EITHER) {
-                    CHECKS.dueThrows("block(" + i + ", " + deciphers + ", " + second + ")",
-                        () -> pair.seal.block(i, deciphers, second), IndexOutOfBoundsException.class);
+    private static void undoesWhatItDid() {
+        for (int i = 0; i < 8; i++) {
+            for (boolean second : Edges.EITHER) {
+                Pair pair = Pair.filled(CHECKS, 61L);
+                long[] plain = pair.reference.longs.clone();
+                pair.seal.block(i, false, second);
+                pair.seal.block(i, true, second);
+                CHECKS.dueSector("block " + i + " enciphered and deciphered", pair.seal, plain);
+                pair.seal.block(i, true, second);
+                pair.seal.block(i, false, second);
+                CHECKS.dueSector("block " + i + " deciphered and enciphered", pair.seal, plain);
+            }
+        }
+    }
+
+    private static void takesTheEdgesOfLong() {
+        for (long first : Edges.LONGS) {
+            for (long last : Edges.LONGS) {
+                for (boolean deciphers : Edges.EITHER) {
+                    Pair pair = Pair.filled(CHECKS, 62L);
+                    pair.put("", 14, first);
+                    pair.put("", 15, last);
+                    pair.block("of " + first + ", " + last + ": ", 7, deciphers, false);
+                    pair.sameSector("the block of " + first + ", " + last);
                 }
             }
         }
-        pair.sameSector("the blocks that threw");
+    }
+
+    // "IndexOutOfBoundsException if i is not 0 to 7."
+    private static void throwsIfTheIndexIsNot0To7() {
+        Refusals refusals = new Refusals(CHECKS, IndexOutOfBoundsException.class);
+        for (int i : Edges.outside(8)) {
+            for (boolean deciphers : Edges.EITHER) {
+                for (boolean second : Edges.EITHER) {
+                    refusals.due("block(" + i + ", " + deciphers + ", " + second + ")",
+                        seal -> seal.block(i, deciphers, second));
+                }
+            }
+        }
     }
 }

@@ -25,15 +25,18 @@ final class Checks {
         }
     }
 
-    // The class itself, not one below it: an array's own exception would be a call that throws by itself.
     void dueThrows(String name, Call call, Class<? extends RuntimeException> want) {
-        Class<?> got = null;
+        due(name + " throws", thrown(call), want.getName());
+    }
+
+    // The class itself, not one below it: an array's own exception would be a call that throws by itself.
+    static String thrown(Call call) {
         try {
             call.run();
         } catch (RuntimeException e) {
-            got = e.getClass();
+            return e.getClass().getName();
         }
-        due(name + " throws", String.valueOf(got), String.valueOf(want));
+        return "nothing";
     }
 
     void end() {

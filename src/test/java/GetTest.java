@@ -1,12 +1,14 @@
 /** Promise 4: get answers LONG i, changes nothing, and throws as put does. */
 public final class GetTest {
     private static final Checks CHECKS = new Checks();
-    private static final int[] WRONG = {-1, 16, 17, -16, 32, Integer.MIN_VALUE, Integer.MAX_VALUE};
 
     public static void main(String[] args) {
         answersWhatWasPut();
         answersTheSameAgain();
-        throwsOutsideTheSector();
+        answersTheEdgesOfLong();
+        takesBothBounds();
+        throwsIfTheIndexIsNot0To15();
+        throwsWherePutThrows();
         CHECKS.end();
     }
 
@@ -25,13 +27,40 @@ public final class GetTest {
         CHECKS.dueSector("the gets", seal, longs);
     }
 
-    private static void throwsOutsideTheSector() {
-        SectorSeal seal = new SectorSeal();
-        long[] longs = filled(seal);
-        for (int i : WRONG) {
-            CHECKS.dueThrows("get(" + i + ")", () -> seal.get(i), IndexOutOfBoundsException.class);
+    private static void answersTheEdgesOfLong() {
+        for (int i = 0; i < 16; i++) {
+            for (long edge : Edges.LONGS) {
+                Pair pair = Pair.filled(CHECKS, 42L);
+                pair.put("", i, edge);
+                pair.get("", i);
+                pair.get("again: ", i);
+                pair.everyAnswer("get(" + i + ") of " + edge + ": ");
+            }
         }
-        CHECKS.dueSector("the gets that threw", seal, longs);
+    }
+
+    private static void takesBothBounds() {
+        for (int i : new int[] {0, 1, 14, 15}) {
+            Pair pair = Pair.sealed(CHECKS, 41L);
+            pair.get("", i);
+            pair.everyAnswer("get(" + i + "): ");
+        }
+    }
+
+    // "Thrown as by put.", which is: "IndexOutOfBoundsException if i is not 0 to 15."
+    private static void throwsIfTheIndexIsNot0To15() {
+        Refusals refusals = new Refusals(CHECKS, IndexOutOfBoundsException.class);
+        for (int i : Edges.outside(16)) {
+            refusals.due("get(" + i + ")", seal -> seal.get(i));
+        }
+    }
+
+    private static void throwsWherePutThrows() {
+        for (int i : Edges.ints()) {
+            SectorSeal seal = new SectorSeal();
+            String byPut = Checks.thrown(() -> seal.put(i, 1L));
+            CHECKS.due("get(" + i + ") throws", Checks.thrown(() -> seal.get(i)), byPut);
+        }
     }
 
     private static long[] filled(SectorSeal seal) {

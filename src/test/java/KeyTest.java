@@ -8,6 +8,9 @@ public final class KeyTest {
         aNewKeyTakesTheOldOnesPlace();
         keyLeavesTheSectorAlone();
         everyBitOfTheKeyCounts();
+        takesTheEdgesOfLongInEveryPlace();
+        takesOneEdgeInAllPlaces();
+        doesNotLookAtTheSector();
         CHECKS.end();
     }
 
@@ -54,6 +57,39 @@ public final class KeyTest {
             pair.sector("bit " + bit + " of the key: ", 1, true);
             pair.sameSector("sector(1, true) under bit " + bit + " of the key");
         }
+    }
+
+    private static void takesTheEdgesOfLongInEveryPlace() {
+        for (int place = 0; place < 4; place++) {
+            for (long edge : Edges.LONGS) {
+                long[] key = {0x0123456789abcdefL, 0x1032547698badcfeL, 0x2301674589efcdabL, 0x3210765489abcdefL};
+                key[place] = edge;
+                everyAnswerUnder(key[0], key[1], key[2], key[3]);
+            }
+        }
+    }
+
+    private static void takesOneEdgeInAllPlaces() {
+        for (long edge : Edges.LONGS) {
+            everyAnswerUnder(edge, edge, edge, edge);
+        }
+    }
+
+    private static void doesNotLookAtTheSector() {
+        for (long edge : Edges.LONGS) {
+            Pair pair = new Pair(CHECKS);
+            for (int i = 0; i < 16; i++) {
+                pair.put("", i, edge);
+            }
+            pair.key(1L, 2L, 3L, 4L);
+            pair.everyAnswer("key over a sector of " + edge + ": ");
+        }
+    }
+
+    private static void everyAnswerUnder(long a, long b, long c, long d) {
+        Pair pair = Pair.sealed(CHECKS, 21L);
+        pair.key(a, b, c, d);
+        pair.everyAnswer("key(" + a + ", " + b + ", " + c + ", " + d + "): ");
     }
 
     private static SectorSeal withPlainBlock() {

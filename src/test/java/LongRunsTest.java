@@ -47,11 +47,10 @@ public final class LongRunsTest {
     }
 
     private void get(String where, int i) {
-        String call = where + "get(" + i + ")";
         if (i < 0 || i > 15) {
-            CHECKS.dueThrows(call, () -> pair.seal.get(i), IndexOutOfBoundsException.class);
+            CHECKS.dueThrows(where + "get(" + i + ")", () -> pair.seal.get(i), IndexOutOfBoundsException.class);
         } else {
-            CHECKS.dueLong(call, pair.seal.get(i), pair.reference.longs[i]);
+            pair.get(where, i);
         }
     }
 

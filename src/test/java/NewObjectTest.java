@@ -1,10 +1,13 @@
-/** Promise 1: KEY and SECTOR of a new object are all 0. */
+/** Promise 1: "KEY and SECTOR are all 0." */
 public final class NewObjectTest {
     private static final Checks CHECKS = new Checks();
 
     public static void main(String[] args) {
         sectorIsZero();
         bothHalvesOfTheKeyAreZero();
+        everyLongIsZeroBeforeItsFirstPut();
+        everyFirstCallAnswersAsUnderZeros();
+        aKeyOfZerosChangesNothing();
         aNewObjectKnowsNothingOfAnOlderOne();
         CHECKS.end();
     }
@@ -22,6 +25,39 @@ public final class NewObjectTest {
         CHECKS.dueLong("get(1)", seal.get(1), 0x884cfa59ca342b2eL);
         CHECKS.dueLong("block(7, false, true)", seal.block(7, false, true), 0x66e94bd4ef8a2c3bL);
         CHECKS.dueLong("get(15)", seal.get(15), 0x884cfa59ca342b2eL);
+    }
+
+    private static void everyLongIsZeroBeforeItsFirstPut() {
+        for (int i = 0; i < 16; i++) {
+            CHECKS.dueLong("put(" + i + ", -1) on a new object", new SectorSeal().put(i, -1L), 0L);
+        }
+    }
+
+    private static void everyFirstCallAnswersAsUnderZeros() {
+        for (boolean way : Edges.EITHER) {
+            for (int s : Edges.fromZero()) {
+                Pair pair = new Pair(CHECKS);
+                pair.sector("new: ", s, way);
+                pair.everyAnswer("new, sector(" + s + ", " + way + "): ");
+            }
+            for (int i = 0; i < 8; i++) {
+                for (boolean second : Edges.EITHER) {
+                    Pair pair = new Pair(CHECKS);
+                    pair.block("new: ", i, way, second);
+                    pair.everyAnswer("new, block(" + i + ", " + way + ", " + second + "): ");
+                }
+            }
+        }
+    }
+
+    private static void aKeyOfZerosChangesNothing() {
+        SectorSeal keyed = new SectorSeal();
+        keyed.key(0L, 0L, 0L, 0L);
+        SectorSeal fresh = new SectorSeal();
+        CHECKS.dueLong("sector(7, true)", fresh.sector(7, true), keyed.sector(7, true));
+        for (int i = 0; i < 16; i++) {
+            CHECKS.dueLong("get(" + i + ") of a sealed new object", fresh.get(i), keyed.get(i));
+        }
     }
 
     private static void aNewObjectKnowsNothingOfAnOlderOne() {

@@ -18,6 +18,12 @@ final class Pair {
         return pair;
     }
 
+    static Pair sealed(Checks checks, long start) {
+        Pair pair = filled(checks, start);
+        pair.sector("sealing: ", 9, true);
+        return pair;
+    }
+
     void key(Numbers numbers) {
         key(numbers.next(), numbers.next(), numbers.next(), numbers.next());
     }
@@ -29,6 +35,10 @@ final class Pair {
 
     void put(String where, int i, long w) {
         checks.dueLong(where + "put(" + i + ", " + w + ")", seal.put(i, w), reference.put(i, w));
+    }
+
+    void get(String where, int i) {
+        checks.dueLong(where + "get(" + i + ")", seal.get(i), reference.longs[i]);
     }
 
     void sector(String where, int s, boolean seals) {
@@ -43,6 +53,22 @@ final class Pair {
 
     void sum(String where) {
         checks.dueLong(where + "sum()", seal.sum(), reference.sum());
+    }
+
+    /** Calls of every kind, under both halves of the key and in both directions. */
+    void everyAnswer(String where) {
+        sameSector(where);
+        sum(where);
+        block(where, 0, false, false);
+        block(where, 3, true, false);
+        block(where, 5, false, true);
+        block(where, 7, true, true);
+        sector(where, 1, true);
+        sector(where, 2, false);
+        for (int i = 0; i < 16; i++) {
+            put(where, i, ~reference.longs[i]);
+        }
+        sameSector(where);
     }
 
     void sameSector(String where) {

@@ -1,13 +1,13 @@
-/** Promise 3: put answers what the LONG was before, and throws if i is not 0 to 15. */
+/** Promise 3: LONG i becomes w, the answer is what it was before; i is 0 to 15. */
 public final class PutTest {
     private static final Checks CHECKS = new Checks();
-    private static final int[] WRONG = {-1, 16, 17, -16, 32, Integer.MIN_VALUE, Integer.MAX_VALUE};
 
     public static void main(String[] args) {
         answersWhatWasBefore();
         changesOneLongAlone();
         keepsTheEdgesOfLong();
-        throwsOutsideTheSector();
+        takesBothBounds();
+        throwsIfTheIndexIsNot0To15();
         CHECKS.end();
     }
 
@@ -35,18 +35,33 @@ public final class PutTest {
     }
 
     private static void keepsTheEdgesOfLong() {
-        SectorSeal seal = new SectorSeal();
-        seal.put(15, Long.MIN_VALUE);
-        CHECKS.dueLong("put over the least long", seal.put(15, Long.MAX_VALUE), Long.MIN_VALUE);
-        CHECKS.dueLong("put over the greatest long", seal.put(15, -1L), Long.MAX_VALUE);
-        CHECKS.dueLong("put over -1", seal.put(15, 0L), -1L);
+        for (int i = 0; i < 16; i++) {
+            SectorSeal seal = new SectorSeal();
+            long before = 0L;
+            for (long edge : Edges.LONGS) {
+                CHECKS.dueLong("put(" + i + ", " + edge + ")", seal.put(i, edge), before);
+                CHECKS.dueLong("get(" + i + ") after put(" + i + ", " + edge + ")", seal.get(i), edge);
+                before = edge;
+            }
+        }
     }
 
-    private static void throwsOutsideTheSector() {
-        SectorSeal seal = new SectorSeal();
-        for (int i : WRONG) {
-            CHECKS.dueThrows("put(" + i + ", 1)", () -> seal.put(i, 1L), IndexOutOfBoundsException.class);
+    private static void takesBothBounds() {
+        for (int i : new int[] {0, 1, 14, 15}) {
+            Pair pair = Pair.sealed(CHECKS, 31L);
+            pair.put("", i, Long.MIN_VALUE);
+            pair.put("", i, Long.MIN_VALUE);
+            pair.everyAnswer("put(" + i + "): ");
         }
-        CHECKS.dueSector("the puts that threw", seal, new long[16]);
+    }
+
+    // "IndexOutOfBoundsException if i is not 0 to 15."
+    private static void throwsIfTheIndexIsNot0To15() {
+        Refusals refusals = new Refusals(CHECKS, IndexOutOfBoundsException.class);
+        for (int i : Edges.outside(16)) {
+            for (long w : new long[] {0L, 1L, -1L, Long.MIN_VALUE, Long.MAX_VALUE}) {
+                refusals.due("put(" + i + ", " + w + ")", seal -> seal.put(i, w));
+            }
+        }
     }
 }

@@ -26,9 +26,7 @@ final class Reference {
     }
 
     long sector(int s, boolean seals) {
-        byte[] start = new byte[16];
-        ByteBuffer.wrap(start).putInt(Integer.reverseBytes(s));
-        BigInteger tweak = new BigInteger(1, reversed(aes(start, false, true)));
+        BigInteger tweak = firstTweak(s);
         for (int i = 0; i < 8; i++) {
             byte[] mask = reversed(sixteenBytes(tweak));
             byte[] sealed = xor(aes(xor(blockBytes(i), mask), !seals, false), mask);
@@ -49,6 +47,21 @@ final class Reference {
             all ^= w;
         }
         return all;
+    }
+
+    /** The tweak of block i, its lowest bit being bit 0. */
+    BigInteger tweak(int s, int i) {
+        BigInteger tweak = firstTweak(s);
+        for (int step = 0; step < i; step++) {
+            tweak = doubled(tweak);
+        }
+        return tweak;
+    }
+
+    private BigInteger firstTweak(int s) {
+        byte[] start = new byte[16];
+        ByteBuffer.wrap(start).putInt(Integer.reverseBytes(s));
+        return new BigInteger(1, reversed(aes(start, false, true)));
     }
 
     private byte[] aes(byte[] block, boolean deciphers, boolean second) {

@@ -1,18 +1,21 @@
-/** Promise 5: sector seals and opens as XTS-AES-128, and throws if s is below 0. */
+import java.math.BigInteger;
+import java.util.Set;
+import java.util.TreeSet;
+
+/** Promise 5: sector seals and opens as XTS-AES-128; s is not below 0. */
 public final class SectorTest {
     private static final Checks CHECKS = new Checks();
-    private static final int[] NUMBERS = {
-        0, 1, 2, 0x7f, 0x80, 0xff, 0x100, 0x8000, 0xffff, 0x10000, 0x123456, 0x800000,
-        0x01000000, 0x01020304, 0x40000000, Integer.MAX_VALUE - 1, Integer.MAX_VALUE
-    };
 
     public static void main(String[] args) {
         sealsIeeeVector1();
         sealsTheBeginningOfIeeeVectors4And5();
         sealsAndOpensUnderEveryKindOfNumber();
         opensWhatWasNeverSealed();
-        reducesTheTweakWhenItOverflows();
+        takesTheNumberLowestByteFirst();
+        carriesAtEveryDoubling();
+        givesEachBlockATweakOfItsOwn();
         sealsTwiceAndOpensTwice();
+        takesTheEdgesOfLong();
         throwsBelowZero();
         CHECKS.end();
     }
@@ -57,7 +60,7 @@ public final class SectorTest {
     }
 
     private static void sealsAndOpensUnderEveryKindOfNumber() {
-        for (int s : NUMBERS) {
+        for (int s : Edges.fromZero()) {
             Pair pair = Pair.filled(CHECKS, s);
             long[] plain = pair.reference.longs.clone();
             both(pair, s, true);
@@ -67,17 +70,77 @@ public final class SectorTest {
     }
 
     private static void opensWhatWasNeverSealed() {
-        for (int s : NUMBERS) {
+        for (int s : Edges.fromZero()) {
             both(Pair.filled(CHECKS, s + 1000L), s, false);
         }
     }
 
-    // Some forty keys: the tweak's top bit is set in about half of all doublings.
-    private static void reducesTheTweakWhenItOverflows() {
-        for (int start = 0; start < 40; start++) {
-            Pair pair = Pair.filled(CHECKS, 5000L + start);
-            both(pair, start, true);
-            both(pair, start + 1, false);
+    // "s as 16 bytes, the lowest first, as IEEE 1619 has it"
+    private static void takesTheNumberLowestByteFirst() {
+        firstBlockIsSealedUnder(0x00000000, 0x0000000000000000L);
+        firstBlockIsSealedUnder(0x00000001, 0x0100000000000000L);
+        firstBlockIsSealedUnder(0x00000080, 0x8000000000000000L);
+        firstBlockIsSealedUnder(0x000000ff, 0xff00000000000000L);
+        firstBlockIsSealedUnder(0x00000100, 0x0001000000000000L);
+        firstBlockIsSealedUnder(0x00008000, 0x0080000000000000L);
+        firstBlockIsSealedUnder(0x00010000, 0x0000010000000000L);
+        firstBlockIsSealedUnder(0x00800000, 0x0000800000000000L);
+        firstBlockIsSealedUnder(0x01000000, 0x0000000100000000L);
+        firstBlockIsSealedUnder(0x01020304, 0x0403020100000000L);
+        firstBlockIsSealedUnder(0x40000000, 0x0000004000000000L);
+        firstBlockIsSealedUnder(Integer.MAX_VALUE, 0xffffff7f00000000L);
+    }
+
+    // XTS by hand on the first block, where the tweak is not doubled yet: block does the AES.
+    private static void firstBlockIsSealedUnder(int s, long numberAsBytes) {
+        SectorSeal byHand = Pair.filled(CHECKS, 51L).seal;
+        SectorSeal seal = Pair.filled(CHECKS, 51L).seal;
+        byHand.put(14, numberAsBytes);
+        byHand.put(15, 0L);
+        byHand.block(7, false, true);
+        long first = byHand.get(14);
+        long last = byHand.get(15);
+        byHand.put(0, byHand.get(0) ^ first);
+        byHand.put(1, byHand.get(1) ^ last);
+        byHand.block(0, false, false);
+        CHECKS.dueLong("sector(" + s + ", true)", seal.sector(s, true), byHand.get(0) ^ first);
+        CHECKS.dueLong("get(1) after sector(" + s + ", true)", seal.get(1), byHand.get(1) ^ last);
+    }
+
+    // Each of the seven doublings wraps round or not, and carries from the first LONG to the last or not.
+    private static void carriesAtEveryDoubling() {
+        for (int i = 0; i < 7; i++) {
+            for (boolean wraps : Edges.EITHER) {
+                for (boolean carries : Edges.EITHER) {
+                    int s = numberWhoseTweak(i, wraps, carries);
+                    both(Pair.filled(CHECKS, 52L), s, true);
+                    both(Pair.filled(CHECKS, 52L), s, false);
+                }
+            }
+        }
+    }
+
+    private static int numberWhoseTweak(int i, boolean wraps, boolean carries) {
+        Reference reference = Pair.filled(CHECKS, 52L).reference;
+        for (int s = 0; s < 1000; s++) {
+            BigInteger tweak = reference.tweak(s, i);
+            if (tweak.testBit(127) == wraps && tweak.testBit(63) == carries) {
+                return s;
+            }
+        }
+        throw new IllegalStateException("no such tweak among the first numbers");
+    }
+
+    // "each block of a sector under a tweak of its own"
+    private static void givesEachBlockATweakOfItsOwn() {
+        for (boolean seals : Edges.EITHER) {
+            SectorSeal seal = new SectorSeal();
+            seal.sector(0, seals);
+            Set<String> blocks = new TreeSet<>();
+            for (int i = 0; i < 16; i += 2) {
+                blocks.add(seal.get(i) + " " + seal.get(i + 1));
+            }
+            CHECKS.due("different blocks out of eight equal ones", blocks.size(), 8);
         }
     }
 
@@ -91,16 +154,26 @@ public final class SectorTest {
         CHECKS.dueSector("opening in the other order", pair.seal, plain);
     }
 
-    private static void throwsBelowZero() {
-        Pair pair = Pair.filled(CHECKS, 99L);
-        for (int s : new int[] {-1, -2, -0x01020304, Integer.MIN_VALUE, Integer.MIN_VALUE + 1}) {
-            for (boolean seals : new boolean[] {true, false}) {
-                CHECKS.dueThrows("sector(" + s + ", " + seals + ")", () -> pair.seal.sector(s, seals),
-                    IllegalArgumentException.class);
+    private static void takesTheEdgesOfLong() {
+        for (long edge : Edges.LONGS) {
+            for (boolean seals : Edges.EITHER) {
+                Pair pair = Pair.filled(CHECKS, 53L);
+                for (int i = 0; i < 16; i++) {
+                    pair.put("", i, edge);
+                }
+                both(pair, Integer.MAX_VALUE, seals);
             }
         }
-        pair.sameSector("the calls that threw");
-        both(pair, 0, true);
+    }
+
+    // "IllegalArgumentException if s is below 0."
+    private static void throwsBelowZero() {
+        Refusals refusals = new Refusals(CHECKS, IllegalArgumentException.class);
+        for (int s : Edges.belowZero()) {
+            for (boolean seals : Edges.EITHER) {
+                refusals.due("sector(" + s + ", " + seals + ")", seal -> seal.sector(s, seals));
+            }
+        }
     }
 
     private static void both(Pair pair, int s, boolean seals) {

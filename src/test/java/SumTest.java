@@ -1,10 +1,12 @@
-/** Promise 7: sum is all LONGS of the SECTOR put together by ^. */
+/** Promise 7: "All LONGS of the SECTOR put together by ^." */
 public final class SumTest {
     private static final Checks CHECKS = new Checks();
 
     public static void main(String[] args) {
         everyLongCountsOnce();
+        everyLongCountsAlone();
         equalLongsCancel();
+        neverCarries();
         followsASealedSector();
         changesNothing();
         CHECKS.end();
@@ -18,6 +20,27 @@ public final class SumTest {
             want ^= w;
             seal.put(i, w);
             CHECKS.dueLong("sum() after put(" + i + ")", seal.sum(), want);
+        }
+    }
+
+    private static void everyLongCountsAlone() {
+        for (int i = 0; i < 16; i++) {
+            for (long edge : Edges.LONGS) {
+                SectorSeal seal = new SectorSeal();
+                seal.put(i, edge);
+                CHECKS.dueLong("sum() after put(" + i + ", " + edge + ")", seal.sum(), edge);
+            }
+        }
+    }
+
+    private static void neverCarries() {
+        for (long edge : Edges.LONGS) {
+            SectorSeal seal = new SectorSeal();
+            for (int i = 0; i < 16; i++) {
+                seal.put(i, edge);
+                long want = i % 2 == 0 ? edge : 0L;
+                CHECKS.dueLong("sum() of " + (i + 1) + " times " + edge, seal.sum(), want);
+            }
         }
     }
 
@@ -40,7 +63,7 @@ public final class SumTest {
     private static void changesNothing() {
         Pair pair = Pair.filled(CHECKS, 7L);
         pair.sum("");
-        pair.sameSector("sum()");
+        pair.everyAnswer("sum(): ");
         pair.sum("again: ");
     }
 }
