@@ -77,22 +77,29 @@ public final class SectorTest {
 
     // "s as 16 bytes, the lowest first, as IEEE 1619 has it"
     private static void takesTheNumberLowestByteFirst() {
-        firstBlockIsSealedUnder(0x00000000, 0x0000000000000000L);
-        firstBlockIsSealedUnder(0x00000001, 0x0100000000000000L);
-        firstBlockIsSealedUnder(0x00000080, 0x8000000000000000L);
-        firstBlockIsSealedUnder(0x000000ff, 0xff00000000000000L);
-        firstBlockIsSealedUnder(0x00000100, 0x0001000000000000L);
-        firstBlockIsSealedUnder(0x00008000, 0x0080000000000000L);
-        firstBlockIsSealedUnder(0x00010000, 0x0000010000000000L);
-        firstBlockIsSealedUnder(0x00800000, 0x0000800000000000L);
-        firstBlockIsSealedUnder(0x01000000, 0x0000000100000000L);
-        firstBlockIsSealedUnder(0x01020304, 0x0403020100000000L);
-        firstBlockIsSealedUnder(0x40000000, 0x0000004000000000L);
-        firstBlockIsSealedUnder(Integer.MAX_VALUE, 0xffffff7f00000000L);
+        firstBlockIsUnder(0x00000000, 0x0000000000000000L);
+        firstBlockIsUnder(0x00000001, 0x0100000000000000L);
+        firstBlockIsUnder(0x00000080, 0x8000000000000000L);
+        firstBlockIsUnder(0x000000ff, 0xff00000000000000L);
+        firstBlockIsUnder(0x00000100, 0x0001000000000000L);
+        firstBlockIsUnder(0x00008000, 0x0080000000000000L);
+        firstBlockIsUnder(0x00010000, 0x0000010000000000L);
+        firstBlockIsUnder(0x00800000, 0x0000800000000000L);
+        firstBlockIsUnder(0x01000000, 0x0000000100000000L);
+        firstBlockIsUnder(0x01020304, 0x0403020100000000L);
+        firstBlockIsUnder(0x40000000, 0x0000004000000000L);
+        firstBlockIsUnder(Integer.MAX_VALUE, 0xffffff7f00000000L);
     }
 
-    // XTS by hand on the first block, where the tweak is not doubled yet: block does the AES.
-    private static void firstBlockIsSealedUnder(int s, long numberAsBytes) {
+    private static void firstBlockIsUnder(int s, long numberAsBytes) {
+        for (boolean seals : Edges.EITHER) {
+            firstBlockIsUnder(s, numberAsBytes, seals);
+        }
+    }
+
+    // XTS by hand on the first block, where the tweak is not doubled yet: block does the AES,
+    // under the second half of the KEY for the tweak and under the first for the data.
+    private static void firstBlockIsUnder(int s, long numberAsBytes, boolean seals) {
         SectorSeal byHand = Pair.filled(CHECKS, 51L).seal;
         SectorSeal seal = Pair.filled(CHECKS, 51L).seal;
         byHand.put(14, numberAsBytes);
@@ -102,9 +109,10 @@ public final class SectorTest {
         long last = byHand.get(15);
         byHand.put(0, byHand.get(0) ^ first);
         byHand.put(1, byHand.get(1) ^ last);
-        byHand.block(0, false, false);
-        CHECKS.dueLong("sector(" + s + ", true)", seal.sector(s, true), byHand.get(0) ^ first);
-        CHECKS.dueLong("get(1) after sector(" + s + ", true)", seal.get(1), byHand.get(1) ^ last);
+        byHand.block(0, !seals, false);
+        String call = "sector(" + s + ", " + seals + ")";
+        CHECKS.dueLong(call, seal.sector(s, seals), byHand.get(0) ^ first);
+        CHECKS.dueLong("get(1) after " + call, seal.get(1), byHand.get(1) ^ last);
     }
 
     // Each of the seven doublings wraps round or not, and carries from the first LONG to the last or not.
